@@ -9,6 +9,7 @@ public final class AskTest {
         eighthAskingWithAFreeBed();
         eighthAskingPutsOut();
         piecesThatArePutOut();
+        neighboursStay();
         hoursThatWentByAreNotLost();
         mostRefusals();
         wrongInputs();
@@ -176,6 +177,21 @@ public final class AskTest {
         Check.due("one refusal more", x.lodgerOf(2, 1), 1);
         Check.due("hours of lodger 2 that are left", x.lodgerOf(2, 3), 2);
         Check.due("lodger 4 was not put out", x.lodgerOf(4, 5), 0);
+    }
+
+    private static void neighboursStay() {
+        SevenAsks x = new SevenAsks();
+        x.ask(3, 0, 2);
+        x.ask(4, 2, 3);
+        x.ask(5, 5, 3);
+        for (int lodger = 6; lodger <= 8; lodger++) {
+            x.ask(lodger, 0, 9);
+        }
+        Check.refuse(x, 9, 7);
+        Check.due("the mask", x.ifPutOut(9, 2, 3), 1 << 4);
+        Check.due("the bed", x.ask(9, 2, 3), 10);
+        Check.bedDue(x, 0, "33999555....");
+        Check.due("hours lost", x.count(7), 3);
     }
 
     private static void hoursThatWentByAreNotLost() {

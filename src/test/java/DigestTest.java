@@ -74,6 +74,10 @@ public final class DigestTest {
         Check.refuse(x, 0, 7);
         Check.due("an eighth asking", x.ifPutOut(0, 8, 3), 1 << 5);
         Check.due("with an eighth asking", x.digest(), told(x, false, true, "4@~"));
+        x.need(2, 9);
+        x.ask(2, 11, 1);
+        Check.due("a bed in the hour behind the asking", x.ifAsked(2, 8, 3), 4);
+        Check.due("with a bed in the last hour", x.digest(), told(x, false, true, "4@~"));
         x.ask(0, 8, 3);
         x.keep(0);
         x.clearBuffer();

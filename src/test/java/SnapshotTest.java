@@ -114,6 +114,7 @@ public final class SnapshotTest {
         }
         for (int left = 5; left >= 0; left--) {
             Check.due("states left", x.undo(), left);
+            Check.due("the setting then", x.count(9), (8 + left) % 10);
         }
         Check.due("the oldest ones are dropped", x.count(9), 8);
         Check.thrown(x, "undo()", IllegalStateException.class, () -> x.undo());

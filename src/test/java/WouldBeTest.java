@@ -45,6 +45,12 @@ public final class WouldBeTest {
     private static void fewestBeds() {
         SevenAsks x = new SevenAsks();
         fewestDue(x, 0);
+        x.ask(9, 0, 1);
+        fewestDue(x, 1);
+        x.giveBack(9, 0);
+        x.ask(9, 11, 1);
+        fewestDue(x, 1);
+        x.giveBack(9, 11);
         x.ask(3, 0, 4);
         fewestDue(x, 1);
         x.ask(4, 2, 4);
@@ -114,6 +120,12 @@ public final class WouldBeTest {
         x.need(9, 4);
         x.need(6, 8);
         Check.due("the lowest of them", x.poorest(), 6);
+        x.need(1, 9);
+        Check.due("lodger 1", x.poorest(), 1);
+        x.need(0, 9);
+        Check.due("lodger 0", x.poorest(), 0);
+        x.need(0, 0);
+        x.need(1, 1);
         Check.refuse(x, 2, 1);
         Check.due("the most refusals", x.poorest(), 2);
         Check.refuse(x, 1, 1);
