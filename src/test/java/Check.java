@@ -1,3 +1,6 @@
+import java.util.function.Consumer;
+import java.util.function.Supplier;
+
 /** What the tests have in common: answers that are due, and exceptions that are due. */
 final class Check {
     private static int asked = 0;
@@ -50,6 +53,60 @@ final class Check {
         }
     }
 
+    /**
+     * The call must throw exactly this class, and change nothing at all: an object with the call
+     * and one without it answer the same throughout, down to the saved states and the slots.
+     */
+    static void throwsOnly(Supplier<SevenAsks> maker, String call, Class<?> want, Consumer<SevenAsks> body) {
+        SevenAsks with = maker.get();
+        String got = outcome(() -> body.accept(with));
+        String due = "throws." + want.getSimpleName();
+        holds(call + " " + got + ", due is " + due, got.equals(due));
+        sameThroughout(call, with, maker.get());
+    }
+
+    /** The call must throw nothing and change nothing at all. */
+    static void changesNothing(Supplier<SevenAsks> maker, String call, Consumer<SevenAsks> body) {
+        SevenAsks with = maker.get();
+        String got = outcome(() -> body.accept(with));
+        holds(call + " " + got, got.equals("threw nothing"));
+        sameThroughout(call, with, maker.get());
+    }
+
+    /** The call must save one state, which undo() brings back; the buffer is cleared by run() alone. */
+    static void undoable(Supplier<SevenAsks> maker, String call, Consumer<SevenAsks> body) {
+        SevenAsks with = maker.get();
+        SevenAsks without = maker.get();
+        int states = with.count(11);
+        body.accept(with);
+        due("saved states behind " + call, with.count(11), Math.min(6, states + 1));
+        due("states left behind the undo of " + call, with.undo(), Math.min(5, states));
+        if (states == 6) {
+            without.need(0, 0);
+            without.undo();
+        }
+        with.clearBuffer();
+        without.clearBuffer();
+        sameThroughout("undo of " + call, with, without);
+    }
+
+    /** What later calls tell of two objects; both are used up by it. */
+    static void sameThroughout(String what, SevenAsks one, SevenAsks other) {
+        due(what + ": the digest", one.digest(), other.digest());
+        due(what + ": the first error", one.firstError(), other.firstError());
+        for (int left = other.count(11); left > 0; left--) {
+            due(what + ": states left", one.undo(), left - 1);
+            other.undo();
+            due(what + ": saved state " + left, one.digest(), other.digest());
+        }
+        for (int slot = 0; slot <= 1; slot++) {
+            int back = slot;
+            String got = outcome(() -> one.goBack(back));
+            holds(what + ": slot " + slot, got.equals(outcome(() -> other.goBack(back))));
+            due(what + ": the snapshot in " + slot, one.digest(), other.digest());
+        }
+    }
+
     private static String outcome(Runnable body) {
         try {
             body.run();
@@ -86,6 +143,41 @@ final class Check {
         x.clearBuffer();
         append(x, text);
         return x.run();
+    }
+
+    /**
+     * An object with nothing at rest: both slots are filled, six states are saved, two hours went
+     * by, lodger 0 has 7 refusals, lodger 9 three favours, and the buffer tells an asking.
+     */
+    static SevenAsks busy() {
+        SevenAsks x = new SevenAsks();
+        x.keep(1);
+        x.ask(3, 1, 4);
+        x.ask(4, 2, 5);
+        refuse(x, 0, 7);
+        x.keep(0);
+        x.pass();
+        x.favour(9);
+        x.favour(9);
+        x.favour(9);
+        x.pass();
+        x.set(2);
+        append(x, "7@c3");
+        return x;
+    }
+
+    /** The lodger has the bed in these hours, and all others are free; not for the lodgers 3 to 5. */
+    static SevenAsks alone(int lodger, int bed, int first, int hours) {
+        SevenAsks x = new SevenAsks();
+        for (int lower = 0; lower < bed; lower++) {
+            x.ask(3 + lower, first, hours);
+        }
+        due("bed " + bed, x.ask(lodger, first, hours), 10 + bed);
+        for (int lower = 0; lower < bed; lower++) {
+            x.giveBack(3 + lower, first);
+        }
+        due("lent hours", x.count(2), hours);
+        return x;
     }
 
     static void pass(SevenAsks x, int hours) {

@@ -55,34 +55,50 @@ public final class DigestTest {
 
     /** Each of the 49 shares that fullness can be, for the sake of its bits. */
     private static void everyShare() {
-        SevenAsks x = new SevenAsks();
-        x.set(0);
-        Check.due("an empty house", x.digest(), told(x, false, false, ""));
-        for (int i = 0; i < 48; i++) {
-            Check.due("one hour more", x.ask(i / 12, i % 12, 1), 10 + i / 12);
-            Check.due("lent hours", x.count(2), i + 1);
-            Check.due(i + 1 + " hours", x.digest(), told(x, false, false, ""));
+        for (int lent = 0; lent <= 48; lent++) {
+            SevenAsks x = new SevenAsks();
+            x.set(0);
+            for (int i = 0; i < lent; i++) {
+                Check.due("one hour more", x.ask(i / 12, i % 12, 1), 10 + i / 12);
+            }
+            Check.due("lent hours", x.count(2), lent);
+            Check.due(lent + " hours", x.digest(), told(x, false, false, ""));
         }
     }
 
-    private static void lateStates() {
+    private static SevenAsks late() {
         SevenAsks x = new SevenAsks();
         Check.run(x, "3@i4;4@i4;5@g3;6@h4;h;h;9@c3");
         x.keep(1);
         Check.append(x, "4@~");
-        Check.due("a slot and a buffer", x.digest(), told(x, false, true, "4@~"));
+        return x;
+    }
+
+    private static SevenAsks lateWithAnEighthAsking() {
+        SevenAsks x = late();
         Check.refuse(x, 0, 7);
         Check.due("an eighth asking", x.ifPutOut(0, 8, 3), 1 << 5);
+        return x;
+    }
+
+    /** A new object for each telling, as one takes some 180 of the 512 calls. */
+    private static void lateStates() {
+        SevenAsks x = late();
+        Check.due("a slot and a buffer", x.digest(), told(x, false, true, "4@~"));
+        x = lateWithAnEighthAsking();
         Check.due("with an eighth asking", x.digest(), told(x, false, true, "4@~"));
+        x = lateWithAnEighthAsking();
         x.need(2, 9);
         x.ask(2, 11, 1);
         Check.due("a bed in the hour behind the asking", x.ifAsked(2, 8, 3), 4);
         Check.due("with a bed in the last hour", x.digest(), told(x, false, true, "4@~"));
+        x = lateWithAnEighthAsking();
         x.ask(0, 8, 3);
         x.keep(0);
         x.clearBuffer();
         Check.due("behind it", x.digest(), told(x, true, true, ""));
-        Check.unchanged(x, "digest", () -> x.digest());
+        SevenAsks last = x;
+        Check.unchanged(x, "digest", () -> last.digest());
     }
 
     private static void changesShow() {

@@ -6,7 +6,6 @@ public final class WardenTest {
         need();
         pass();
         nightsEnd();
-        lastNight();
         set();
         Check.end();
     }
@@ -128,21 +127,6 @@ public final class WardenTest {
         x.undo();
         Check.bedDue(x, 0, "..........99");
         Check.due("hours that went by", x.count(0), 11);
-    }
-
-    /** Behind the 512th call nothing is promised; but nearer the 999 nights can't be seen. */
-    private static void lastNight() {
-        SevenAsks x = new SevenAsks();
-        Check.pass(x, 999 * 12 - 1);
-        Check.due("nights that ended", x.count(1), 998);
-        Check.append(x, "9@l1;h;h;9@a1");
-        Check.due("the run ends ahead of the second hour", x.run(), 2);
-        Check.due("the buffer is clear", x.clearBuffer(), 0);
-        Check.due("nights that ended", x.count(1), 999);
-        Check.thrown(x, "pass()", IllegalStateException.class, () -> x.pass());
-        Check.due("nothing is done", Check.run(x, "h"), 0);
-        Check.due("one asking is done", Check.run(x, "9@a1;h;8@a1"), 1);
-        Check.due("hours that went by", x.count(0), 0);
     }
 
     private static void set() {
